@@ -636,9 +636,9 @@ public final class PenArm {
             return true;
         }
 
-        /** All that are left and that the stroke is over are done. */
+        /** All that the stroke is over are done; those that are not left always are. */
         private boolean isFree(int stroke, int done) {
-            return (sheet.over[stroke] & left & ~done) == 0;
+            return (sheet.over[stroke] & ~done) == 0;
         }
 
         private void tellToGoFrom(int done) {

@@ -153,6 +153,9 @@ public final class PromisesTest {
         arm.stroke(0, 0);
         due("the latest", arm.point(1, 3, 3), 1);
         due("not the latest", arm.point(0, 3, 3), NONE);
+        arm.stroke(0, 0);
+        due("not the latest, with room", arm.point(1, 4, 4), NONE);
+        due("as it was", arm.told(1, 2), 1);
 
         PenArm drawn = new PenArm();
         line(drawn, 0, 0, 0, 0, 5, 0);
@@ -234,6 +237,9 @@ public final class PromisesTest {
         due("fresh: left", arm.told(0, 4), 1);
         due("fresh: end", arm.told(0, 5), NONE);
         due("prices stay", arm.plan(), 30 + 3 + 4);
+        line(arm, 1, 0, 4, 0, 5, 0);
+        due("fresh: not over", arm.over(1, 0, false), false);
+        due("fresh: no pairs", arm.count(2), 0);
         due("clear again", arm.clear(), true);
     }
 
@@ -582,7 +588,9 @@ public final class PromisesTest {
         due("jams", arm.count(4), 1);
         due("again", arm.jam(), false);
         due("goes on", arm.start(), true);
-        arm.step(5 + 20 + 1);
+        arm.step(5 + 2);
+        due("units are counted anew", arm.arm(8), 1);
+        arm.step(18 + 1);
         dueArm(arm, 10, 10, 0, 1);
         due("in the corner", arm.jam(), true);
         duePoints(arm, 0, 10, 10, 20, 10);
@@ -591,6 +599,7 @@ public final class PromisesTest {
         due("ended", arm.told(0, 5), 25);
         due("drawn", arm.told(0, 4), 0);
         duePoints(arm, 0, 10, 10, 20, 10);
+        due("no units of the next one", arm.arm(8), 0);
         arm.step(3);
         arm.jam();
         due("drawn stays drawn", arm.told(0, 4), 0);
