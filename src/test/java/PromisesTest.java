@@ -1,11 +1,5 @@
-import java.util.NoSuchElementException;
-
 /** For each promise of the document: ordinary inputs, the edges that it names, and wrong inputs. */
-public final class PromisesTest {
-    private static final int NONE = PenArm.NONE;
-    private static int wrong = 0;
-    private static String where = "";
-
+public final class PromisesTest extends Checks {
     public static void main(String[] args) {
         newObject();
         strokes();
@@ -35,65 +29,11 @@ public final class PromisesTest {
         atTells();
         counts();
         refusedInARun();
-        if (wrong != 0) {
-            System.out.println(wrong + " answers are not as due");
-            System.exit(1);
-        }
-        System.out.println("all promises hold");
-    }
-
-    private static void due(String call, long got, long want) {
-        if (got != want) {
-            wrong++;
-            System.out.println(where + ": " + call + " answered " + got + ", due is " + want);
-        }
-    }
-
-    private static void due(String call, boolean got, boolean want) {
-        due(call, got ? 1 : 0, want ? 1 : 0);
-    }
-
-    private static int line(PenArm arm, int pen, int wet, int... places) {
-        int stroke = arm.stroke(pen, wet);
-        for (int i = 0; i + 1 < places.length; i += 2) {
-            due("point", arm.point(stroke, places[i], places[i + 1]), i / 2 + 1);
-        }
-        return stroke;
-    }
-
-    private static void dueArm(PenArm arm, int x, int y, int pen, int down) {
-        due("arm(0)", arm.arm(0), x);
-        due("arm(1)", arm.arm(1), y);
-        due("arm(2)", arm.arm(2), pen);
-        due("arm(3)", arm.arm(3), down);
-    }
-
-    private static void duePoints(PenArm arm, int stroke, int... places) {
-        due("told(" + stroke + ", 2)", arm.told(stroke, 2), places.length / 2);
-        for (int i = 0; i + 1 < places.length && i / 2 < arm.told(stroke, 2); i += 2) {
-            due("at x " + i / 2, arm.at(stroke, i / 2, false), places[i]);
-            due("at y " + i / 2, arm.at(stroke, i / 2, true), places[i + 1]);
-        }
-    }
-
-    private static boolean hasNone(PenArm arm, int stroke, int i) {
-        boolean x = false;
-        boolean y = false;
-        try {
-            arm.at(stroke, i, false);
-        } catch (NoSuchElementException e) {
-            x = true;
-        }
-        try {
-            arm.at(stroke, i, true);
-        } catch (NoSuchElementException e) {
-            y = true;
-        }
-        return x && y;
+        finish("all promises hold");
     }
 
     private static void newObject() {
-        where = "promise 1";
+        sentence("promise 1");
         PenArm arm = new PenArm();
         dueArm(arm, 0, 0, NONE, 0);
         due("arm(4)", arm.arm(4), 0);
@@ -112,7 +52,7 @@ public final class PromisesTest {
     }
 
     private static void strokes() {
-        where = "promise 2";
+        sentence("promise 2");
         PenArm arm = new PenArm();
         due("pen -1", arm.stroke(-1, 0), NONE);
         due("pen 4", arm.stroke(4, 0), NONE);
@@ -129,7 +69,7 @@ public final class PromisesTest {
     }
 
     private static void points() {
-        where = "promise 3";
+        sentence("promise 3");
         PenArm arm = new PenArm();
         due("no strokes", arm.point(0, 1, 1), NONE);
         arm.stroke(0, 0);
@@ -165,7 +105,7 @@ public final class PromisesTest {
     }
 
     private static void overs() {
-        where = "promise 4";
+        sentence("promise 4");
         PenArm arm = new PenArm();
         due("no such", arm.over(0, 1, true), false);
         line(arm, 0, 0, 0, 0, 1, 0);
@@ -187,7 +127,7 @@ public final class PromisesTest {
     }
 
     private static void prices() {
-        where = "promise 5";
+        sentence("promise 5");
         int[] low = {1, 1, 0, 0, 0};
         int[] high = {9, 9, 99, 999, 99};
         PenArm arm = new PenArm();
@@ -212,7 +152,7 @@ public final class PromisesTest {
     }
 
     private static void clears() {
-        where = "promise 6";
+        sentence("promise 6");
         PenArm arm = new PenArm();
         line(arm, 2, 7, 0, 0, 5, 0);
         line(arm, 2, 7, 5, 0, 5, 5);
@@ -244,7 +184,7 @@ public final class PromisesTest {
     }
 
     private static void plans() {
-        where = "promise 7";
+        sentence("promise 7");
         PenArm arm = new PenArm();
         due("none left", arm.plan(), 0);
         arm.stroke(0, 0);
@@ -282,7 +222,7 @@ public final class PromisesTest {
     }
 
     private static void plansInTies() {
-        where = "promise 7, ties";
+        sentence("promise 7, ties");
         PenArm arm = new PenArm();
         line(arm, 0, 0, 10, 0, 10, 10);
         due("lower beginning", arm.planned(0, 1), 0);
@@ -301,7 +241,7 @@ public final class PromisesTest {
     }
 
     private static void plannedRows() {
-        where = "promise 8";
+        sentence("promise 8");
         PenArm arm = new PenArm();
         line(arm, 0, 0, 40, 0, 30, 0);
         line(arm, 1, 0, 0, 0, 0, 10);
@@ -327,7 +267,7 @@ public final class PromisesTest {
     }
 
     private static void strokeTicks() {
-        where = "promise 9";
+        sentence("promise 9");
         PenArm arm = new PenArm();
         due("no such", arm.ticks(0, 0), NONE);
         arm.stroke(0, 0);
@@ -353,7 +293,7 @@ public final class PromisesTest {
     }
 
     private static void closedTicks() {
-        where = "promise 9, closed";
+        sentence("promise 9, closed");
         PenArm arm = new PenArm();
         line(arm, 0, 0, 10, 0, 20, 0, 20, 20, 0, 20, 0, 0);
         due("not closed yet", arm.told(0, 3), 0);
@@ -385,7 +325,7 @@ public final class PromisesTest {
     }
 
     private static void touching() {
-        where = "promise 10";
+        sentence("promise 10");
         PenArm arm = new PenArm();
         due("no such", arm.touch(0, 0), NONE);
         arm.stroke(0, 0);
@@ -417,7 +357,7 @@ public final class PromisesTest {
     }
 
     private static void starting() {
-        where = "promise 11";
+        sentence("promise 11");
         PenArm arm = new PenArm();
         due("none left", arm.start(), false);
         arm.stroke(0, 0);
@@ -436,7 +376,7 @@ public final class PromisesTest {
     }
 
     private static void stepping() {
-        where = "promise 12";
+        sentence("promise 12");
         PenArm arm = new PenArm();
         due("no run", arm.step(1), NONE);
         due("no run", arm.step(0), NONE);
@@ -459,7 +399,7 @@ public final class PromisesTest {
     }
 
     private static void zeroTicks() {
-        where = "promise 12, what takes no ticks";
+        sentence("promise 12, what takes no ticks");
         PenArm arm = new PenArm();
         arm.price(2, 0);
         arm.price(3, 0);
@@ -494,7 +434,7 @@ public final class PromisesTest {
     }
 
     private static void waiting() {
-        where = "promise 12, wet";
+        sentence("promise 12, wet");
         PenArm arm = new PenArm();
         line(arm, 0, 100, 0, 0, 10, 0);
         line(arm, 0, 1000, 20, 0, 30, 0);
@@ -528,7 +468,7 @@ public final class PromisesTest {
     }
 
     private static void slantedWay() {
-        where = "promise 12, where it is";
+        sentence("promise 12, where it is");
         PenArm arm = new PenArm();
         arm.price(0, 3);
         arm.price(1, 2);
@@ -567,7 +507,7 @@ public final class PromisesTest {
     }
 
     private static void jamming() {
-        where = "promise 13";
+        sentence("promise 13");
         PenArm arm = new PenArm();
         due("no run", arm.jam(), false);
         due("no jam", arm.count(4), 0);
@@ -608,7 +548,7 @@ public final class PromisesTest {
     }
 
     private static void jammingBackward() {
-        where = "promise 13, back";
+        sentence("promise 13, back");
         PenArm arm = new PenArm();
         line(arm, 0, 0, 30, 0, 20, 0, 10, 0, 1, 0);
         due("from its last", arm.planned(0, 1), 1);
@@ -623,7 +563,7 @@ public final class PromisesTest {
     }
 
     private static void jammingClosed() {
-        where = "promise 13, closed";
+        sentence("promise 13, closed");
         PenArm arm = new PenArm();
         line(arm, 0, 0, 20, 20, 20, 10, 10, 10, 10, 20, 20, 20);
         due("from its nearest", arm.planned(0, 1), 2);
@@ -644,7 +584,7 @@ public final class PromisesTest {
     }
 
     private static void jammingWithoutUnit() {
-        where = "promise 13, no unit";
+        sentence("promise 13, no unit");
         PenArm arm = new PenArm();
         line(arm, 0, 0, 9, 0, 9, 9, 0, 9, 0, 0, 9, 0);
         arm.start();
@@ -660,7 +600,7 @@ public final class PromisesTest {
     }
 
     private static void jammingInTheAir() {
-        where = "promise 13, in the air";
+        sentence("promise 13, in the air");
         PenArm arm = new PenArm();
         line(arm, 2, 0, 10, 20, 30, 20);
         arm.start();
@@ -681,7 +621,7 @@ public final class PromisesTest {
     }
 
     private static void jammingAtTheEnd() {
-        where = "promise 13, at the end";
+        sentence("promise 13, at the end");
         PenArm arm = new PenArm();
         line(arm, 0, 50, 0, 0, 10, 0);
         line(arm, 0, 0, 10, 0, 10, 10);
@@ -704,7 +644,7 @@ public final class PromisesTest {
     }
 
     private static void armTells() {
-        where = "promise 14";
+        sentence("promise 14");
         PenArm arm = new PenArm();
         due("what -1", arm.arm(-1), NONE);
         due("what 9", arm.arm(9), NONE);
@@ -741,7 +681,7 @@ public final class PromisesTest {
     }
 
     private static void toldTells() {
-        where = "promise 15";
+        sentence("promise 15");
         PenArm arm = new PenArm();
         line(arm, 3, 1000, 1, 1, 2, 2);
         int[] first = {3, 1000, 2, 0, 1, NONE};
@@ -768,7 +708,7 @@ public final class PromisesTest {
     }
 
     private static void atTells() {
-        where = "promise 16";
+        sentence("promise 16");
         PenArm arm = new PenArm();
         due("no stroke", hasNone(arm, 0, 0), true);
         arm.stroke(0, 0);
@@ -785,7 +725,7 @@ public final class PromisesTest {
     }
 
     private static void counts() {
-        where = "promise 17";
+        sentence("promise 17");
         PenArm arm = new PenArm();
         due("what -1", arm.count(-1), NONE);
         due("what 5", arm.count(5), NONE);
@@ -808,7 +748,7 @@ public final class PromisesTest {
     }
 
     private static void refusedInARun() {
-        where = "a run";
+        sentence("a run");
         PenArm arm = new PenArm();
         line(arm, 0, 0, 0, 0, 10, 0);
         line(arm, 0, 0, 10, 0, 10, 10);
