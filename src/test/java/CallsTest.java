@@ -19,9 +19,11 @@ public final class CallsTest extends Checks {
         priceWhich();
         priceAgain();
         clearAlways();
+        clearMakesAllNew();
         clearLeavesWhatItDoesNotName();
         planIsNone();
         planIsZero();
+        planFollowsEachChange();
         plannedWithout();
         plannedFollowsTheArm();
         ticksNoSuch();
@@ -378,6 +380,25 @@ public final class CallsTest extends Checks {
         denied("a RUN", CallsTest::running, arm -> arm.clear());
     }
 
+    private static void clearMakesAllNew() {
+        sentence("Promise 6: All STROKES are gone: a new one is as any new one");
+        for (Calls scene : scenes()) {
+            PenArm arm = played(scene);
+            arm.jam();
+            arm.clear();
+            for (int s = 0; s < 8; s++) {
+                due("its number", arm.stroke(3, 5), s);
+                int[] tells = {3, 5, 0, 0, 1, NONE};
+                for (int what = 0; what < 6; what++) {
+                    due("told(" + s + ", " + what + ")", arm.told(s, what), tells[what]);
+                }
+                due("it takes POINTS", arm.point(s, 9, 9), 1);
+                due("over none", s > 0 && arm.over(s, s - 1, false), false);
+                due("under none", s > 0 && arm.over(s - 1, s, false), false);
+            }
+        }
+    }
+
     private static void clearLeavesWhatItDoesNotName() {
         sentence("Promise 6: what it does not name stays: PRICES, RUNS, jams, the last RUN's ticks");
         PenArm arm = played(CallsTest::jammed);
@@ -427,6 +448,45 @@ public final class CallsTest extends Checks {
         due("of one that goes on, with none left", lifting.plan(), 50);
         lifting.jam();
         due("none left behind a jam", lifting.plan(), 0);
+    }
+
+    /** Each call stands between two that ask for the plan. */
+    private static void planFollowsEachChange() {
+        sentence("Promise 7: The sum of ticks of PLAN, as it is now");
+        PenArm arm = new PenArm();
+        duePlan(arm, 0);
+        arm.stroke(0, 0);
+        duePlan(arm, NONE);
+        arm.point(0, 10, 0);
+        duePlan(arm, NONE);
+        arm.point(0, 20, 0);
+        duePlan(arm, 45 + 20 + 5, 0, 0);
+        arm.point(0, 20, 10);
+        duePlan(arm, 45 + 43 + 5, 0, 0);
+        line(arm, 0, 0, 20, 10, 30, 10);
+        duePlan(arm, 45 + 63 + 5, 0, 0, 1, 0);
+        arm.over(0, 1, true);
+        duePlan(arm, 65 + 63 + 5, 1, 1, 0, 1);
+        arm.price(4, 13);
+        duePlan(arm, 65 + 73 + 5, 1, 1, 0, 1);
+        arm.over(0, 1, false);
+        duePlan(arm, 45 + 73 + 5, 0, 0, 1, 0);
+        arm.start();
+        arm.step(50);
+        duePlan(arm, 45 + 73 + 5, 0, 0, 1, 0);
+        arm.jam();
+        duePlan(arm, 2 + 5 + 73 + 5, 0, 0, 1, 0);
+        arm.start();
+        arm.step(10000);
+        duePlan(arm, 0);
+        arm.stroke(0, 0);
+        duePlan(arm, NONE);
+        arm.clear();
+        duePlan(arm, 0);
+        line(arm, 0, 0, 0, 0, 5, 0);
+        duePlan(arm, 35 + 10 + 5, 0, 0);
+        arm.clear();
+        duePlan(arm, 0);
     }
 
     private static void plannedWithout() {
@@ -503,14 +563,6 @@ public final class CallsTest extends Checks {
         due("of what is left of one", arm.ticks(0, 0), 20);
     }
 
-    private static int touchOf(int[] one, int[] other) {
-        PenArm arm = new PenArm();
-        line(arm, 0, 0, one);
-        line(arm, 0, 0, other);
-        due("both ways", arm.touch(1, 0), arm.touch(0, 1));
-        return arm.touch(0, 1);
-    }
-
     private static void dueTouch(String name, int want, int... places) {
         int[] one = java.util.Arrays.copyOf(places, 4);
         int[] other = java.util.Arrays.copyOfRange(places, 4, places.length);
@@ -538,6 +590,9 @@ public final class CallsTest extends Checks {
         dueTouch("upright, apart", 0, 7, 0, 7, 4, 7, 5, 7, 9);
         dueTouch("upright, end on end", 1, 7, 0, 7, 4, 7, 4, 7, 9);
         dueTouch("side by side", 0, 0, 0, 9, 9, 0, 1, 8, 9);
+        dueTouch("side by side, as near as can be", 0, 0, 0, 1, 1, 0, 1, 1, 2);
+        dueTouch("side by side, as near as can be", 0, 0, 0, 1, 1, 1, 0, 2, 1);
+        dueTouch("side by side, slanted down", 0, 0, 2, 2, 1, 0, 3, 2, 2);
         dueTouch("the same one again", 1, 3, 4, 8, 9, 3, 4, 8, 9);
         dueTouch("the widest", 1, 0, 0, 500, 500, 500, 0, 0, 500);
         dueTouch("the widest, by a hair", 0, 0, 0, 500, 499, 499, 499, 0, 500);

@@ -73,7 +73,9 @@ public final class ModelTest {
 
         void oneCall() {
             int kind = random.nextInt(100);
-            if (model.timeline != null) {
+            if (random.nextInt(12) == 0) {
+                edgeCall();
+            } else if (model.timeline != null) {
                 runCall(kind);
             } else if (kind < 12 && model.strokes.size() < strokes) {
                 int pen = random.nextInt(3);
@@ -100,6 +102,62 @@ public final class ModelTest {
             }
         }
 
+        private int edge(int... most) {
+            int far = random.nextBoolean() ? Integer.MIN_VALUE : Integer.MAX_VALUE;
+            int last = most[random.nextInt(most.length)];
+            int[] some = {-1, 0, last, last + 1, far, random.nextInt(last + 1)};
+            return some[random.nextInt(some.length)];
+        }
+
+        /** At bounds and beyond them, whatever goes on. */
+        private void edgeCall() {
+            switch (random.nextInt(6)) {
+                case 0: {
+                    int pen = edge(3);
+                    int wet = edge(1000);
+                    boolean room = pen < 0 || pen > 3 || model.strokes.size() < strokes;
+                    wet = room ? wet : 1001;
+                    done("stroke(" + pen + ", " + wet + ")",
+                            arm.stroke(pen, wet), model.stroke(pen, wet));
+                    return;
+                }
+                case 1: {
+                    int stroke = random.nextBoolean() ? edge(7) : model.strokes.size() - 1;
+                    int x = edge(span - 1, 500);
+                    int y = edge(span - 1, 500);
+                    done("point(" + stroke + ", " + x + ", " + y + ")",
+                            arm.point(stroke, x, y), model.point(stroke, x, y));
+                    return;
+                }
+                case 2: {
+                    int one = edge(7);
+                    int other = edge(7);
+                    boolean is = random.nextBoolean();
+                    done("over(" + one + ", " + other + ", " + is + ")",
+                            arm.over(one, other, is) ? 1 : 0, model.over(one, other, is) ? 1 : 0);
+                    return;
+                }
+                case 3: {
+                    int which = edge(4);
+                    int ticks = edge(9, 99, 999);
+                    done("price(" + which + ", " + ticks + ")",
+                            arm.price(which, ticks) ? 1 : 0, model.price(which, ticks) ? 1 : 0);
+                    return;
+                }
+                case 4: {
+                    int n = edge(10000);
+                    done("step(" + n + ")", arm.step(n), model.step(n));
+                    return;
+                }
+                default:
+                    if (model.timeline == null) {
+                        done("jam()", arm.jam() ? 1 : 0, model.jam() ? 1 : 0);
+                    } else {
+                        done("start()", arm.start() ? 1 : 0, model.start() ? 1 : 0);
+                    }
+            }
+        }
+
         private void pointCall() {
             int stroke = random.nextInt(10) == 0 ? random.nextInt(10) - 1 : model.strokes.size() - 1;
             int x = random.nextInt(span);
@@ -123,6 +181,8 @@ public final class ModelTest {
                 done("over(0, 1, true)", arm.over(0, 1, true) ? 1 : 0, 0);
                 done("over(0, 1, false)", arm.over(0, 1, false) ? 1 : 0, 0);
                 done("start()", arm.start() ? 1 : 0, 0);
+                int latest = model.strokes.size() - 1;
+                done("point(" + latest + ", 1, 1)", arm.point(latest, 1, 1), NONE);
             } else {
                 int n = kind < 80 ? random.nextInt(9) : random.nextInt(60);
                 n = kind == 99 ? 10000 : n;
@@ -265,13 +325,20 @@ public final class ModelTest {
         private List<int[]> bestRows;
 
         int stroke(int newPen, int wet) {
+            if (timeline != null || strokes.size() == 8
+                    || newPen < 0 || newPen > 3 || wet < 0 || wet > 1000) {
+                return NONE;
+            }
             known = false;
             strokes.add(new Line(newPen, wet));
             return strokes.size() - 1;
         }
 
         int point(int s, int px, int py) {
-            if (s < 0 || s != strokes.size() - 1) {
+            if (timeline != null || s < 0 || s != strokes.size() - 1) {
+                return NONE;
+            }
+            if (px < 0 || px > 500 || py < 0 || py > 500) {
                 return NONE;
             }
             Line line = strokes.get(s);
@@ -292,7 +359,7 @@ public final class ModelTest {
         }
 
         boolean over(int s, int other, boolean is) {
-            if (!is(s) || !is(other) || s == other || over[s][other] == is) {
+            if (timeline != null || !is(s) || !is(other) || s == other || over[s][other] == is) {
                 return false;
             }
             known = false;
@@ -302,7 +369,8 @@ public final class ModelTest {
 
         boolean price(int which, int ticks) {
             int[] most = {9, 9, 99, 999, 99};
-            if (which < 0 || which > 4 || ticks < (which < 2 ? 1 : 0) || ticks > most[which]) {
+            if (timeline != null || which < 0 || which > 4
+                    || ticks < (which < 2 ? 1 : 0) || ticks > most[which]) {
                 return false;
             }
             known = false;
@@ -311,6 +379,9 @@ public final class ModelTest {
         }
 
         boolean clear() {
+            if (timeline != null) {
+                return false;
+            }
             known = false;
             strokes.clear();
             over = new boolean[8][8];
@@ -468,7 +539,7 @@ public final class ModelTest {
 
         boolean start() {
             know();
-            if (rows.isEmpty()) {
+            if (timeline != null || rows.isEmpty()) {
                 return false;
             }
             runs++;
@@ -595,6 +666,9 @@ public final class ModelTest {
         }
 
         int step(int n) {
+            if (timeline == null || n < 0 || n > 10000) {
+                return NONE;
+            }
             int gone = Math.min(n, timeline.size() - 1 - tick);
             tick += gone;
             take(timeline.get(tick));
@@ -606,6 +680,9 @@ public final class ModelTest {
         }
 
         boolean jam() {
+            if (timeline == null) {
+                return false;
+            }
             Moment moment = timeline.get(tick);
             jams++;
             if (moment.units > 0) {

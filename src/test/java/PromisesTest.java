@@ -316,14 +316,6 @@ public final class PromisesTest extends Checks {
         due("so there are three beginnings", arm.ticks(2, 3), NONE);
     }
 
-    private static int touchOf(int[] one, int[] other) {
-        PenArm arm = new PenArm();
-        line(arm, 0, 0, one);
-        line(arm, 0, 0, other);
-        due("both ways", arm.touch(1, 0), arm.touch(0, 1));
-        return arm.touch(0, 1);
-    }
-
     private static void touching() {
         sentence("promise 10");
         PenArm arm = new PenArm();

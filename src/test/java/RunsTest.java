@@ -12,7 +12,9 @@ public final class RunsTest extends Checks {
         waitsInThisRun();
         waitsAheadOfItsFirstUnit();
         waitsBehindAJoin();
+        waitsMoreThanOnce();
         wholeUnits();
+        unitsOfAllPieces();
         cutTowardsP();
         cutTowardsPInTheAir();
         cornerAtThePoint();
@@ -33,8 +35,11 @@ public final class RunsTest extends Checks {
         cutIsNeverClosed();
         cutGetsNoMorePoints();
         cutTwice();
+        cutAgainBack();
         neverLeftWithOnePoint();
         jamChangesNothingElse();
+        fullestRun();
+        shorterBehindALonger();
         refusedWhileARunGoesOn();
         toldWhileARunGoesOn();
         finish("the terms of runs hold");
@@ -60,12 +65,6 @@ public final class RunsTest extends Checks {
             begun(arm);
             arm.step(ticks);
         };
-    }
-
-    private static PenArm drawing(int... places) {
-        PenArm arm = new PenArm();
-        line(arm, 0, 0, places);
-        return arm;
     }
 
     private static void followsThePlan() {
@@ -199,6 +198,24 @@ public final class RunsTest extends Checks {
         }
     }
 
+    private static void waitsMoreThanOnce() {
+        sentence("ticks waited in it: of all its STROKES");
+        PenArm arm = new PenArm();
+        line(arm, 0, 30, 0, 0, 10, 0);
+        line(arm, 0, 7, 10, 0, 10, 10);
+        line(arm, 0, 0, 10, 10, 20, 10);
+        duePlan(arm, 35 + 60 + 5, 0, 0, 1, 0, 2, 0);
+        arm.start();
+        int[][] rows = {{55, 0}, {56, 1}, {84, 29}, {85, 30}, {104, 30}, {105, 30}, {106, 31},
+            {112, 37}, {113, 37}, {132, 37}};
+        for (int[] row : rows) {
+            arm.step(row[0] - arm.arm(5));
+            due("waited by " + row[0], arm.arm(6), row[1]);
+        }
+        due("the rest", arm.step(10000), 5);
+        due("waited", arm.arm(6), 37);
+    }
+
     private static void wholeUnits() {
         sentence("the units that are whole by then");
         for (int ticks = 1; ticks <= 9; ticks++) {
@@ -216,6 +233,21 @@ public final class RunsTest extends Checks {
             due("drawn", arm.told(0, 4), 0);
             due("units of none", arm.arm(8), 0);
         }
+    }
+
+    private static void unitsOfAllPieces() {
+        sentence("units drawn of it: of all its pieces");
+        PenArm arm = drawing(0, 0, 4, 0, 4, 3, 9, 3, 11, 3);
+        arm.start();
+        int[][] rows = {{35, 0}, {42, 3}, {43, 4}, {46, 4}, {47, 4}, {48, 5}, {52, 7}, {55, 7},
+            {57, 8}, {64, 11}, {65, 12}, {66, 12}, {67, 13}, {68, 13}};
+        for (int[] row : rows) {
+            arm.step(row[0] - arm.arm(5));
+            due("units by " + row[0], arm.arm(8), row[1]);
+        }
+        arm.step(1);
+        due("drawn", arm.told(0, 5), 69);
+        due("units of none", arm.arm(8), 0);
     }
 
     /** Draws from 50, 50 and looks at the arm behind each unit. */
@@ -649,6 +681,26 @@ public final class RunsTest extends Checks {
         due("jams", arm.count(4), 3);
     }
 
+    private static void cutAgainBack() {
+        sentence("CUT again, as it was drawn then: back, and forth once more");
+        PenArm arm = drawing(0, 0, 30, 0, 30, 20, 12, 1);
+        arm.start();
+        arm.step(35 + 24);
+        arm.jam();
+        duePoints(arm, 0, 0, 0, 30, 0, 30, 20, 12, 1);
+        due("nearer its last", arm.planned(0, 1), 1);
+        arm.start();
+        arm.step(1 + 5 + 2);
+        arm.jam();
+        duePoints(arm, 0, 12, 1, 30, 20, 30, 0, 0, 0);
+        due("nearer its first", arm.planned(0, 1), 0);
+        arm.start();
+        arm.step(1 + 5 + 38 + 3 + 2);
+        dueArm(arm, 30, 19, 0, 1);
+        arm.jam();
+        duePoints(arm, 0, 30, 20, 30, 0, 0, 0);
+    }
+
     /** At its last POINT a STROKE is ended, so a JAM never leaves one POINT alone. */
     private static void neverLeftWithOnePoint() {
         sentence("if none is left but one it is drawn");
@@ -675,6 +727,57 @@ public final class RunsTest extends Checks {
             due("pairs", arm.count(2), 1);
             due("it is so", arm.over(1, 0, true), false);
             due("prices", arm.ticks(1, 0), 20);
+        }
+    }
+
+    /** Each of eight is begun with all that there is to do, waits, and has all corners. */
+    private static void fullest(PenArm arm) {
+        for (int s = 0; s < 8; s++) {
+            arm.stroke(s % 2, 1000);
+            for (int i = 0; i < 12; i++) {
+                arm.point(s, 10 * i, i % 2 * 10);
+            }
+        }
+        for (int s = 1; s < 8; s++) {
+            arm.over(s, s - 1, true);
+        }
+        arm.start();
+    }
+
+    private static void fullestRun() {
+        sentence("a RUN of 8 STROKES of 12 POINTS, changing and waiting for each");
+        PenArm arm = played(RunsTest::fullest);
+        duePlan(arm, 35 + 8 * 250 + 7 * 40 + 5,
+                0, 0, 1, 1, 2, 0, 3, 1, 4, 0, 5, 1, 6, 0, 7, 1);
+        due("to its end", arm.step(10000), 2320 + 7 * 960);
+        due("waited", arm.arm(6), 7 * 960);
+        for (int s = 0; s < 8; s++) {
+            due("ended", arm.told(s, 5), 285 + 1250 * s);
+        }
+        dueArm(arm, 0, 0, 1, 0);
+        PenArm jammed = played(RunsTest::fullest);
+        jammed.step(285 + 1250 * 7 - 1);
+        jammed.jam();
+        duePoints(jammed, 7, 10, 10, 0, 0);
+        due("one left", jammed.count(1), 1);
+    }
+
+    private static void shorterBehindALonger() {
+        sentence("no RUN: no units, none underway, the last RUN's ticks waited");
+        for (int many = 2; many <= 12; many++) {
+            PenArm arm = played(RunsTest::fullest);
+            arm.step(10000);
+            arm.clear();
+            arm.stroke(0, 0);
+            for (int i = 0; i < many; i++) {
+                arm.point(0, 10 * i, i % 2 * 10);
+            }
+            arm.start();
+            arm.step(10000);
+            due("no units", arm.arm(8), 0);
+            due("not waited", arm.arm(6), 0);
+            due("none underway", arm.arm(7), NONE);
+            due("ticks", arm.arm(5), 35 + 20 * (many - 1) + 3 * (many - 2) + 5);
         }
     }
 

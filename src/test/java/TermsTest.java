@@ -33,12 +33,6 @@ public final class TermsTest extends Checks {
         finish("the terms of strokes and plans hold");
     }
 
-    private static PenArm drawing(int... places) {
-        PenArm arm = new PenArm();
-        line(arm, 0, 0, places);
-        return arm;
-    }
-
     private static void placesOfPoints() {
         sentence("POINTS have whole numbers 0 .. 500");
         Calls scene = arm -> line(arm, 0, 0, 250, 250);
@@ -344,6 +338,8 @@ public final class TermsTest extends Checks {
         due("opposite, a part of it", cornersOf(0, 0, 9, 0, 8, 0), 1);
         due("opposite, beyond", cornersOf(5, 0, 9, 0, 0, 0), 1);
         due("opposite, along y", cornersOf(0, 5, 0, 9, 0, 0), 1);
+        due("opposite, the shortest", cornersOf(0, 0, 1, 0, 0, 0), 1);
+        due("opposite, the shortest, up", cornersOf(3, 4, 3, 3, 3, 4), 1);
         due("opposite, slanted", cornersOf(10, 20, 13, 26, 12, 24), 1);
         due("the greatest cross product", cornersOf(0, 0, 500, 0, 0, 500), 1);
         due("the greatest that are in line", cornersOf(0, 500, 250, 250, 500, 0), 0);

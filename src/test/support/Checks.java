@@ -56,6 +56,20 @@ abstract class Checks {
         return stroke;
     }
 
+    static PenArm drawing(int... places) {
+        PenArm arm = new PenArm();
+        line(arm, 0, 0, places);
+        return arm;
+    }
+
+    static int touchOf(int[] one, int[] other) {
+        PenArm arm = new PenArm();
+        line(arm, 0, 0, one);
+        line(arm, 0, 0, other);
+        due("both ways", arm.touch(1, 0), arm.touch(0, 1));
+        return arm.touch(0, 1);
+    }
+
     static PenArm played(Calls scene) {
         PenArm arm = new PenArm();
         scene.on(arm);
