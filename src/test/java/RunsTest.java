@@ -327,7 +327,8 @@ public final class RunsTest extends Checks {
             due("units", arm.arm(8), 9);
             for (int k = 0; k <= corner + 1; k++) {
                 arm.step(1);
-                dueArm(arm, 10, 0, 0, 1);
+                due("x", arm.arm(0), 10);
+                due("y", arm.arm(1), 0);
                 due("units", arm.arm(8), 10);
             }
             arm.step(1);
